@@ -37,7 +37,7 @@ final class Sample {
             seen.append("style ").append(x.base(i)).append(':').append(properties(x, 0, i)).append('\n');
         }
         for (int i = 0; i < x.count(1); i++) {
-            seen.append("set ").append(properties(x, 1, i)).append('\n');
+            seen.append("set:").append(properties(x, 1, i)).append('\n');
         }
         for (int i = 0; i < x.count(2); i++) {
             seen.append("mark");
@@ -54,7 +54,8 @@ final class Sample {
             seen.append('\n');
         }
         seen.append("characters");
-        for (int i = 0; i < x.count(4); i++) {
+        int characters = x.count(4);
+        for (int i = 0; i < characters; i++) {
             seen.append(' ').append(x.at(i));
         }
         return seen.append('\n').toString();
@@ -74,7 +75,8 @@ final class Sample {
     /** The bytes of the file, with blanks between them. */
     static String file(DocumentFile x) {
         StringBuilder seen = new StringBuilder();
-        for (int i = 0; i < x.count(5); i++) {
+        int bytes = x.count(5);
+        for (int i = 0; i < bytes; i++) {
             seen.append(i == 0 ? "" : " ").append(x.octet(i));
         }
         return seen.toString();
