@@ -38,6 +38,8 @@ public final class BytesTest {
             CHECK.due("octet(" + (5 + i) + ")", x.octet(5 + i), bytes[i]);
         }
         CHECK.due("the file", Sample.file(x), "77 83 5 0 0 0 1 127 128 255 0 1 255 255 128 0 255 0 255 5");
+        CHECK.due("alter(0, 9)", x.alter(0, 9), true);
+        CHECK.due("octet(0)", x.octet(0), 9);
         CHECK.due("the document", Sample.document(x), document);
         DocumentFile y = new DocumentFile();
         CHECK.due("alter(1, 3) of no bytes", y.alter(1, 3), false);

@@ -11,6 +11,7 @@ public final class SaveTest {
         numbers();
         properties();
         sets();
+        setsThatDiffer();
         marks();
         olds();
         joined();
@@ -101,6 +102,24 @@ public final class SaveTest {
                 + " 0 0 1 1 1 1 1 97"
                 + " 1 0 1 1 1"
                 + " 0 1 1 1 98");
+    }
+
+    /** Two sets that differ in one property alone, in its value or in whether it is there. */
+    private static void setsThatDiffer() {
+        for (int p = 0; p < 24; p++) {
+            DocumentFile x = withSetAndMark();
+            x.set();
+            x.property(1, 0, p, 1);
+            x.property(1, 1, p, 0);
+            x.type(0, 0, 'a');
+            x.type(1, 0, 'b');
+            String start = "77 83 1 0 2 0 0 1 " + p + " 1 0 0 0 0 1 97 0 0 ";
+            CHECK.due("sets with other values", saved(x), start + "1 " + p + " 0 1 1 98");
+            x.property(1, 1, p, -1);
+            CHECK.due("sets with and without", saved(x), start + "0 1 1 98");
+            x.property(1, 1, p, 1);
+            CHECK.due("sets with the same", saved(x), "77 83 1 0 1 0 0 1 " + p + " 1 0 0 0 0 2 97 98");
+        }
     }
 
     private static void marks() {
