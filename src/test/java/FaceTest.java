@@ -4,8 +4,8 @@ import java.lang.reflect.Method;
 import java.lang.reflect.Modifier;
 import java.util.TreeSet;
 
-/** The face of the document, these members and no others. */
-public final class FaceTest {
+/** The face of the document, these members and no others, and the rules of LANGUAGE.md on names. */
+public final class FaceTest extends Cases {
     private static final String FACE = "DocumentFile(), "
             + "boolean alter(int,int), boolean cut(int), boolean property(int,int,int,int), "
             + "int at(int), int base(int), int changes(int,int), int count(int), int end(int,int,int,int), "
@@ -13,16 +13,50 @@ public final class FaceTest {
             + "int style(int), int type(int,int,long), int value(int,int,int), void clear()";
 
     public static void main(String[] args) {
-        Check check = new Check();
-        check.due("the class is final and public",
-                Modifier.toString(DocumentFile.class.getModifiers()), "public final");
-        check.due("the members that aren't private", face(), FACE);
+        run(FaceTest.class);
+    }
+
+    static void theClassIsFinalAndPublic() {
+        due("the class", "public final", Modifier.toString(DocumentFile.class.getModifiers()));
+    }
+
+    static void theMembersThatAreNotPrivate() {
+        due("the face", FACE, face());
+    }
+
+    static void theFaceThrowsNothingThatIsChecked() {
+        for (Method m : DocumentFile.class.getDeclaredMethods()) {
+            due("exceptions of " + m.getName(), 0, m.getExceptionTypes().length);
+        }
+    }
+
+    static void classesInsideAreStaticAndNotPublic() {
         for (Class<?> inside : DocumentFile.class.getDeclaredClasses()) {
             int m = inside.getModifiers();
-            check.due(inside + " is static and not public",
-                    Modifier.isStatic(m) && !Modifier.isPublic(m) && !Modifier.isProtected(m), true);
+            due(inside + " being static and not public", true,
+                    Modifier.isStatic(m) && !Modifier.isPublic(m) && !Modifier.isProtected(m));
         }
-        check.finish();
+    }
+
+    static void noMethodInsideBearsTheNameOfAPublicOne() {
+        TreeSet<String> publicNames = new TreeSet<>();
+        for (Method m : DocumentFile.class.getDeclaredMethods()) {
+            if (Modifier.isPublic(m.getModifiers())) {
+                publicNames.add(m.getName());
+            }
+        }
+        for (Class<?> inside : DocumentFile.class.getDeclaredClasses()) {
+            for (Method m : inside.getDeclaredMethods()) {
+                due(m + " being a name of the face", false, publicNames.contains(m.getName()));
+            }
+        }
+    }
+
+    static void staticFieldsAreFinal() {
+        for (Field f : DocumentFile.class.getDeclaredFields()) {
+            int m = f.getModifiers();
+            due(f + " being final if it is static", true, !Modifier.isStatic(m) || Modifier.isFinal(m));
+        }
     }
 
     private static String face() {
