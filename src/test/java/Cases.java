@@ -12,7 +12,8 @@ abstract class Cases {
     static final int LEAST = Integer.MIN_VALUE;
     static final int MOST = Integer.MAX_VALUE;
 
-    private static String name = "";
+    private static final int SECONDS = 120;
+    private static volatile String name = "";
     private static int looked = 0;
     private static int wrong = 0;
 
@@ -20,8 +21,9 @@ abstract class Cases {
         Object on(Counted x);
     }
 
-    /** Runs all cases of a class; exit code 1 if an answer was wrong, or a case looked at none. */
+    /** Runs all cases of a class; exit code 1 if an answer was wrong, or a case looked at none or doesn't end. */
     static void run(Class<?> test) {
+        watch();
         TreeMap<String, Method> cases = new TreeMap<>();
         for (Method m : test.getDeclaredMethods()) {
             if (isCase(m)) {
@@ -35,6 +37,21 @@ abstract class Cases {
         if (wrong != 0 || cases.isEmpty()) {
             System.exit(1);
         }
+    }
+
+    /** A call that doesn't end fails its test, too; the test is far quicker than this. */
+    private static void watch() {
+        Thread watch = new Thread(() -> {
+            try {
+                Thread.sleep(1000L * SECONDS);
+            } catch (InterruptedException e) {
+                return;
+            }
+            System.out.println(name + ": " + Counted.latest() + " has not ended after " + SECONDS + " seconds");
+            Runtime.getRuntime().halt(1);
+        });
+        watch.setDaemon(true);
+        watch.start();
     }
 
     private static boolean isCase(Method m) {

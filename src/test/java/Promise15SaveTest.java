@@ -294,6 +294,23 @@ public final class Promise15SaveTest extends Cases {
                 HEAD + "0 2 0 0 1 8 100 0 0 0 1 1 8 101 1 97 0 1 0 1 0 3 1 98");
     }
 
+    static void aSetWithTheSameIsTheNumberOfTheFirst() {
+        State state = Start.sets(2).then(x -> x.set()).then(property(1, 2, 8, 100)).then(mark(0, 0, -1))
+                .then(mark(1, 0, 2)).then(mark(1, 0, 0));
+        String two = HEAD + "0 3 0 0 1 8 100 0 0 0 0 1 97 0 0 1 8 101 1 1 98 0 1 ";
+        saved(state.then(type(0, 0, "a")).then(type(1, 0, "b")).then(type(2, 0, "c")), two + "1 1 99");
+        saved(state.then(type(2, 0, "a")).then(type(1, 0, "b")).then(type(0, 0, "c")), two + "1 1 99");
+        saved(state.then(type(0, 0, "a")).then(type(1, 0, "b")).then(type(0, 1, "c")), two + "0 1 0 2 1 99");
+        saved(state.then(type(2, 0, "a")).then(type(1, 0, "b")).then(type(2, 2, "c")), two + "0 1 0 2 1 99");
+    }
+
+    static void aMarkWithTheSameIsTheNumberOfTheFirst() {
+        State state = Start.sets(2).then(x -> x.set()).then(property(1, 2, 8, 101)).then(mark(9, 8, 1))
+                .then(mark(9, 8, -1)).then(mark(9, 8, 2)).then(mark(9, 8, -1));
+        saved(state.then(type(0, 0, "a")).then(type(0, 1, "b")).then(type(0, 2, "c")).then(type(0, 3, "d")),
+                HEAD + "0 4 0 0 1 8 100 0 9 8 1 1 8 101 1 97 0 1 0 9 8 0 1 98 0 1 1 1 99 0 1 2 1 100");
+    }
+
     static void theMostMarksAndTheirNumbers() {
         State state = x -> x.set();
         StringBuilder bytes = new StringBuilder(HEAD + "0 26 ");
