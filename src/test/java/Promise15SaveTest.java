@@ -327,6 +327,20 @@ public final class Promise15SaveTest extends Cases {
                 HEAD + "0 4 0 0 1 8 100 0 6 5 0 1 97 0 0 1 8 101 1 1 98 0 0 1 8 102 0 5 6 0 1 99 0 3 1 1 100");
     }
 
+    /** Sets and marks by other numbers, more than once or not used, text in other pieces, other calls before. */
+    static void eachDocumentIsWrittenInJustOneWay() {
+        String file = HEAD + "0 2 0 0 1 8 100 0 1 2 1 1 8 101 3 97 98 99 1 0 2 0 0 0 0 2";
+        State one = Start.sets(2).then(mark(1, 2, 1)).then(mark(0, 0, -1));
+        saved(one.then(type(0, 0, "abc")).then(end(1, 1, -1, 2)), file);
+        State other = Start.FULL.then(x -> x.clear()).then(Start.sets(2)).then(Start.sets(2)).then(property(1, 0, 9, 1))
+                .then(property(1, 2, 8, 101)).then(property(1, 3, 8, 100)).then(mark(0, 0, -1)).then(mark(0, 0, -1))
+                .then(mark(1, 2, 1)).then(mark(1, 2, 2));
+        // The first two sets have the same as the last two, in another order.
+        saved(other.then(property(1, 0, 9, -1)).then(type(3, 3, "a")).then(type(0, 2, "b")).then(type(3, 2, "c"))
+                .then(end(1, 1, -1, 1)).then(end(2, 0, -1, 1)), file);
+        saved(Start.file(file).then(x -> x.open()), file);
+    }
+
     static void theFileBeforeIsGone() {
         State longer = Start.file("1 2 3 4 5 6 7 8 9 10 11 12");
         saved(longer, HEAD + "0 0");

@@ -225,6 +225,7 @@ public final class TermsOpeningTest extends Cases {
         // It is a fault when they are read: a wrong one of them comes first, what stands behind them later.
         fault(ahead + "0 2 3 1 9 |");
         fault(ahead + "0 2 3 1 | 3 4 1 1");
+        fault(SECOND + "1 0 0 1 | 24 0 1 1");
         fault(ahead + "| 0 2 3 1 9 4 128");
         answers(opened(ahead + "0 2 3 1 9 5 1 1"), 5, x -> x.value(1, 1, 9));
     }
@@ -282,9 +283,11 @@ public final class TermsOpeningTest extends Cases {
             x.type(0, 0, Start.text("ab"));
             x.end(2, 1, 1, 4);
             x.end(1, 0, -1, 1);
+            x.mark(7, 8, 0);
+            x.type(0, 2, 255);
         };
-        State opened = opened("77 83 1 2 0 0 1 1 20 129 72 3 0 0 1 8 3 0 7 8 1 1 0 0 2 97 98"
-                + " 1 2 0 0 0 0 0 0 4 1 0 2 1 1");
+        State opened = opened("77 83 1 2 0 0 1 1 20 129 72 4 0 0 1 8 3 0 7 8 1 1 0 0 2 97 98"
+                + " 1 2 0 0 0 0 0 0 4 1 0 2 1 1 0 1 0 7 8 2 1 255");
         same("what opened", Look.document(due), Look.document(opened));
         same("its file", Look.file(opened), Look.file(opened.then(x -> x.save())));
     }

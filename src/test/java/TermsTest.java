@@ -70,16 +70,21 @@ public final class TermsTest extends Cases {
         }
         due(-1, x.set());
         due(-1, x.mark(0, 0, -1));
-        for (int i = 1; i <= 39; i++) {
+        for (int i = 1; i <= 40; i++) {
             due(i, x.type(i % 24, i % 24, 'a'));
         }
-        due(-1, x.end(0, 0, 0, 474));
-        due(40, x.end(0, 0, 0, 473));
         due(-1, x.type(0, 0, 'a'));
-        int[] most = {16, 24, 24, 40, 512};
+        due(-1, x.end(0, 0, 0, 1));
+        int[] most = {16, 24, 24, 40, 40};
         for (int what = 0; what < most.length; what++) {
             due(most[what], x.count(what));
         }
+        Counted y = at(Start.PLAIN);
+        due(1, y.end(0, 0, -1, 500));
+        due(-1, y.end(0, 0, -1, 13));
+        due(2, y.end(0, 0, -1, 12));
+        due(-1, y.type(0, 0, 'a'));
+        due(512, y.count(4));
     }
 
     @Says("A style has a BASE, a style or none (-1), and properties;")
